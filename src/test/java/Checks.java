@@ -5,11 +5,17 @@ final class Checks {
     }
 
     private final String title;
+    private String sentence = "";
     private int made;
     private int wrong;
 
     Checks(String title) {
         this.title = title;
+    }
+
+    /** What follows is asked by this sentence of the document: each fault is told with it. */
+    void begin(String words) {
+        sentence = " [" + words + "]";
     }
 
     void due(String what, long want, long got) {
@@ -58,7 +64,7 @@ final class Checks {
 
     private void tell(String fault) {
         wrong++;
-        System.out.println(title + ": " + fault);
+        System.out.println(title + sentence + ": " + fault);
     }
 
     private static String thrownBy(Call call) {
