@@ -28,7 +28,7 @@ final class RefusedCallsTest {
                 gone(3, STATE)));
         compare("between slices", RefusedCallsTest::betweenSlices, 4, with(usual, gone(0, STATE),
                 gone(3, STATE)));
-        compare("64 of a client", RefusedCallsTest::fullClient, 66, with(usual, gone(0, STATE),
+        compare("64 of a client", RefusedCallsTest::fullClient, 67, with(usual, gone(0, STATE),
                 submit(0, NONE, 0, 1, 0), submit(0, NONE, 99936, 64, Disks.FAR)));
         whenTicketsAreOut(with(always, gone(7, STATE), submit(0, NONE, 0, 1, 0),
                 submit(7, NONE, 0, 1, 0), submit(7, NONE, 99936, 64, Disks.FAR)));
@@ -153,13 +153,16 @@ final class RefusedCallsTest {
         return disk;
     }
 
+    /** 64 of client 0 wait, and it has a slice. */
     private static ShareDisk fullClient() {
         ShareDisk disk = Disks.withClients(100, 0, 3, 7);
         Disks.serve(disk, 3, 50, 2);
         for (int i = 0; i < 64; i++) {
-            disk.submit(0, i % 3 == 0, 5 * i, 7, 20 * i);
+            disk.submit(0, i % 3 == 0, 5 * i, 7, 10 + 20 * i);
         }
         Disks.read(disk, 3, 20, 2);
+        disk.dispatch();
+        Disks.read(disk, 0, 20, 2);
         return disk;
     }
 

@@ -671,5 +671,13 @@ final class TermsEdgesTest {
         due("the system's", 46 * UNIT, disk.tag(8));
         disk.gone(2);
         due("one that is gone leaves the system's", 46 * UNIT, disk.tag(8));
+
+        ShareDisk left = Disks.withClients(64, 0, 1);
+        Disks.read(left, 0, 0, 50);
+        Disks.read(left, 1, 50, 1);
+        left.dispatch();
+        left.gone(0);
+        left.dispatch();
+        due("one that is gone has no tag", UNIT, left.tag(8));
     }
 }
